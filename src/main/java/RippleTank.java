@@ -1111,10 +1111,8 @@ public final class RippleTank {
             }
         }
 
+        /** Forgets what a text need not tell; the rest is told anew by every text. */
         void clear() {
-            columns = 1;
-            rows = 1;
-            fade = 0;
             wallColumn = NONE;
             sourceCount = 0;
             shoalCount = 0;

@@ -50,6 +50,10 @@ public final class ParserTest {
         good(HEAD + ";train0 0 1 50 2 0 0 9999burst1 2", 1);
         faulty("Tank", 1, 0);
         faulty("tankwidth 5", 1, 0);
+        faulty("tan", 1, 0);
+        faulty("tanks", 1, 0);
+        faulty("xank", 1, 0);
+        faulty("tank widths", 1, 5);
         faulty("tank,", 1, 4);
         faulty("tank\twidth", 1, 4);
         faulty("tank \u00f4", 1, 5);

@@ -131,7 +131,8 @@ public final class PromiseTest {
     private void sources() {
         RippleTank t = Bench.loaded("tank width 9 height 9 fade 0;train 4 4 60 80 7 11 3 40"
                 + ";drift 0 - 99 50;train 1 2 90 70 6 12 10 30 burst 2 3"
-                + ";train 0 0 100 70 6 12 10 20 rising 3;cut 1 16 16;cut 1 15 15;off 2");
+                + ";train 0 0 100 70 6 12 10 20 rising 3;cut 1 16 16;cut 1 15 15;off 2"
+            + ";train 0 0 80 70 6 12 11 30 burst 1 1");
         b.same("14 at 0", t.sourceAt(0, 0, 0), 4);
         b.same("14 towards 0", t.sourceAt(0, 0, 1), 4);
         b.same("14 column", t.sourceAt(0, 0, 4), 4 - 3);
@@ -139,14 +140,14 @@ public final class PromiseTest {
         b.same("14 clamped low", t.sourceAt(0, 0, 9999), 0);
         b.same("14 clamped high", t.sourceAt(0, 1, 9999), 8);
         b.same("14 at rest", t.sourceAt(1, 1, 9999), 2);
-        index("14 source", s -> t.sourceAt(s, 0, 0), 3);
+        index("14 source", s -> t.sourceAt(s, 0, 0), 4);
         argument("14 axis", a -> t.sourceAt(0, a, 0), 2);
         argument("14 t", a -> t.sourceAt(0, 0, a), 10000);
         int[] due = {60, 80, 7, 11, 3, 40};
         for (int what = 0; what < 6; what++) {
             b.same("15 property " + what, t.property(0, what), due[what]);
         }
-        index("15 source", s -> t.property(s, 0), 3);
+        index("15 source", s -> t.property(s, 0), 4);
         argument("15 what", w -> t.property(0, w), 6);
         t.setAmp(0, 61);
         t.setPhase(0, 358);
@@ -154,7 +155,7 @@ public final class PromiseTest {
         b.same("15 PHASE set", t.property(0, 3), 358);
         b.same("16 on", t.isOn(0), true);
         b.same("16 off", t.isOn(2), false);
-        index("16 source", s -> t.isOn(s), 3);
+        index("16 source", s -> t.isOn(s), 4);
         b.same("17 before FROM", t.amplitude(0, 2), 0);
         b.same("17 at FROM", t.amplitude(0, 3), 61);
         b.same("17 at UNTIL", t.amplitude(0, 40), 61);
@@ -163,11 +164,14 @@ public final class PromiseTest {
         for (int i = 0; i < burst.length; i++) {
             b.same("17 burst at " + (10 + i), t.amplitude(1, 10 + i), burst[i]);
         }
+        b.same("17 burst of one", t.amplitude(3, 11), 80);
+        b.same("17 no burst", t.amplitude(3, 12), 0);
+        b.same("17 next burst", t.amplitude(3, 13), 80);
         int[] rising = {0, 33, 66, 100, 100};
         for (int i = 0; i < rising.length; i++) {
             b.same("17 rising at " + (9 + i), t.amplitude(2, 9 + i), rising[i]);
         }
-        index("17 source", s -> t.amplitude(s, 0), 3);
+        index("17 source", s -> t.amplitude(s, 0), 4);
         argument("17 t", a -> t.amplitude(0, a), 10000);
     }
 
@@ -283,7 +287,7 @@ public final class PromiseTest {
         index("28 x", x -> t.waveAt(x, 0, 0), 4);
         index("28 y", y -> t.waveAt(0, y, 0), 1);
         argument("28 t", a -> t.waveAt(0, 0, a), 10000);
-        b.same("29 never at 0 in 3", t.quietIn(1, 0, 0, 3), 0);
+        b.same("29 at once", t.quietIn(1, 0, 0, 3), 0);
         t.advance(4);
         b.same("27 now", t.wave(1, 0), 100);
         b.same("29 after one", t.quietIn(1, 0, 99, 200), 1);
@@ -301,6 +305,10 @@ public final class PromiseTest {
         index("26 source", s -> t.part(s, 0, 0), 1);
         index("26 x", x -> t.part(0, x, 0), 4);
         index("26 y", y -> t.part(0, 0, y), 1);
+        RippleTank slow = Bench.loaded("tank width 1 height 1 fade 0;train 0 0 9 50 80 0 0 9"
+                + ";shape 0 square");
+        b.same("29 just too few steps", slow.quietIn(0, 0, 8, 9), RippleTank.NONE);
+        b.same("29 just enough steps", slow.quietIn(0, 0, 8, 10), 10);
         RippleTank loud = Bench.loaded(SQUARE);
         b.same("29 never", loud.quietIn(0, 0, 99, 200), RippleTank.NONE);
         b.same("26 saw", Bench.loaded(LANE + ";shape 0 saw").part(0, 0, 0), -50);
@@ -316,6 +324,10 @@ public final class PromiseTest {
         b.same("27 outside the shoals", shoal().wave(1, 0), 0);
         b.same("27 fade", Bench.loaded("tank width 3 height 1 fade 100"
                 + ";train 0 0 99 100 2 90 0 9").waveAt(2, 0, 4), 99 * 100 / 300);
+        b.same("27 the strongest fade", Bench.loaded("tank width 3 height 1 fade 1"
+                + ";train 0 0 999 100 2 90 0 9").waveAt(1, 0, 2), 999 / 101);
+        b.same("27 a small amplitude", Bench.loaded(LANE.replace("100 100 4", "1 100 4"))
+                .wave(0, 0), 1);
         walledWaves();
     }
 
@@ -352,6 +364,13 @@ public final class PromiseTest {
         RippleTank bottom = Bench.loaded(one + ";mirror bottom 50");
         b.same("26 bottom, early", bottom.waveAt(0, 0, 4), 100);
         b.same("26 bottom", bottom.waveAt(0, 0, 6), 150);
+        b.same("26 one percent", Bench.loaded(one + ";mirror left 1").waveAt(0, 0, 2), 101);
+        // In each of these the image is farther from its source than from the cell.
+        String inside = "tank width 5 height 4 fade 0;train 1 2 100 100 2 90 0 0;mirror ";
+        b.same("26 left of column 1", Bench.loaded(inside + "left 40").waveAt(2, 2, 8), 40);
+        b.same("26 right of column 1", Bench.loaded(inside + "right 40").waveAt(2, 2, 12), 40);
+        b.same("26 top of row 2", Bench.loaded(inside + "top 40").waveAt(1, 1, 8), 40);
+        b.same("26 bottom of row 2", Bench.loaded(inside + "bottom 40").waveAt(1, 1, 8), 40);
         b.same("26 towards 0", Bench.loaded(one.replace("100 100", "3 100") + ";mirror left 50")
                 .waveAt(0, 0, 3), -3 - 1);
         b.same("22 no images", right.shortest(0, 1, 0), 100);
@@ -398,6 +417,15 @@ public final class PromiseTest {
                 + ";shoal 0 0 0 0 200;shoal 0 0 0 0 200;shoal 0 0 0 0 200");
         b.same("34 sums beyond int", loud.rhythm(0, 10), 1);
         b.same("32 loud", loud.peak(0, 1), 999 * 32);
+        RippleTank late = Bench.loaded("tank width 1 height 1 fade 0;train 0 0 9 50 40 90 19 20"
+                + ";train 0 0 9 50 40 270 0 0;gauge 0 0;shape 0 square;shape 1 square");
+        b.same("33 zeros are left out", late.crossings(0, 21), 0);
+        late.setPhase(0, 270);
+        b.same("33 a change past zeros", late.crossings(0, 20), 1);
+        b.same("33 not yet", late.crossings(0, 19), 0);
+        RippleTank twenty = Bench.loaded("tank width 1 height 1 fade 0;train 0 0 9 50 40 0 0 0"
+                + ";train 0 0 9 50 40 180 20 20;gauge 0 0;shape 0 square;shape 1 square");
+        b.same("34 the greatest lag", twenty.rhythm(0, 1), 20);
         b.same("39 energies beyond int", loud.energy(0, 0, 40), 999L * 32 * 999 * 32 * 40);
     }
 
