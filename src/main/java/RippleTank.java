@@ -1303,13 +1303,17 @@ public final class RippleTank {
                 return;
             }
             rowBits[y] ^= 1 << x;
-            gathered[gatheredCount] = y * columns + x;
-            gatheredCount++;
+            if (gatheredCount < MAX_CELLS) {
+                gathered[gatheredCount] = y * columns + x;
+                gatheredCount++;
+            }
         }
     }
 
     /** The text that was written last. */
     private static final class Page {
+        private static final int MAX_DIGITS = 10;
+
         // The longest texts are 160 digits with 9 semicolons, and 16 numbers with 15 commas.
         final byte[] bytes = new byte[256];
         int length;
@@ -1327,7 +1331,7 @@ public final class RippleTank {
             }
             int size = Math.abs(number);
             int unit = 1;
-            while (unit <= size / 10) {
+            for (int digits = 1; digits < MAX_DIGITS && unit <= size / 10; digits++) {
                 unit *= 10;
             }
             for (; unit > 0; unit /= 10) {

@@ -1,5 +1,6 @@
 import java.nio.charset.StandardCharsets;
 import java.util.Arrays;
+import java.util.function.IntFunction;
 
 /** What the tests share: loading texts, and counting answers that are not due. */
 final class Bench {
@@ -7,12 +8,32 @@ final class Bench {
         Object answer();
     }
 
+    private static final int[] FAR = {Integer.MIN_VALUE, -1_000_000, 1_000_000, Integer.MAX_VALUE};
     static final String STATE = "IllegalStateException";
     static final String INDEX = "IndexOutOfBoundsException";
     static final String ARGUMENT = "IllegalArgumentException";
 
     private int checks;
     private int wrong;
+    private int sentences;
+    private int checksBefore;
+    private String sentence = "";
+
+    /** Tells which words of the document the next checks stand for, and that they are there. */
+    void sentence(String part, String words) {
+        endSentence();
+        sentences++;
+        sentence = part + ", \"" + words + "\": ";
+        same("these words", Document.says(part, words), true);
+        checksBefore = checks;
+    }
+
+    private void endSentence() {
+        if (!sentence.isEmpty() && checks == checksBefore) {
+            wrong++;
+            System.out.println(sentence + "nothing is checked");
+        }
+    }
 
     void same(String what, Object got, Object want) {
         checks++;
@@ -21,7 +42,7 @@ final class Bench {
                 : got.equals(want);
         if (!equal) {
             wrong++;
-            System.out.println(what + " answered " + got + ", due is " + want);
+            System.out.println(sentence + what + " answered " + got + ", due is " + want);
         }
     }
 
@@ -39,10 +60,50 @@ final class Bench {
     }
 
     void end() {
-        System.out.println(checks + " checks, " + wrong + " wrong");
+        endSentence();
+        System.out.println(checks + " checks"
+                + (sentences > 0 ? " of " + sentences + " sentences, " : ", ") + wrong + " wrong");
         if (wrong != 0 || checks == 0) {
             System.exit(1);
         }
+    }
+
+    /** Refused are the given values, and those that are far from every range. */
+    void refusedAll(String what, String exception, IntFunction<Object> call, int... values) {
+        for (int value : values) {
+            refused(what + " of " + value, exception, () -> call.apply(value));
+        }
+        for (int value : FAR) {
+            refused(what + " of " + value, exception, () -> call.apply(value));
+        }
+    }
+
+    // ---- texts
+
+    RippleTank good(String text, int sources) {
+        RippleTank t = new RippleTank();
+        same("load of " + text, outcome(() -> load(t, text)), sources);
+        same("code of " + text, t.parseError(), 0);
+        same("position of " + text, t.errorPosition(), RippleTank.NONE);
+        return t;
+    }
+
+    void faulty(String text, int code, int position) {
+        RippleTank t = new RippleTank();
+        refused("load of " + text, ARGUMENT, () -> load(t, text));
+        same("code of " + text, t.parseError(), code);
+        same("position of " + text, t.errorPosition(), position);
+        same("tank of " + text, t.sources(), 0);
+    }
+
+    /** The position is where the last occurrence of a part of the text begins. */
+    void faulty(String text, int code, String at) {
+        faulty(text, code, text.lastIndexOf(at));
+    }
+
+    void faultyAtEnd(String text, int code) {
+        faulty(text, code, text.length());
+        faulty(text + "  ", code, text.length() + 2);
     }
 
     static int append(RippleTank tank, String text) {

@@ -18,30 +18,20 @@ public final class ParserTest {
         test.b.end();
     }
 
-    /** The position is where the last occurrence of a part of the text begins. */
     private void faulty(String text, int code, String at) {
-        faulty(text, code, text.lastIndexOf(at));
-    }
-
-    private void faultyAtEnd(String text, int code) {
-        faulty(text, code, text.length());
-        faulty(text + "  ", code, text.length() + 2);
+        b.faulty(text, code, at);
     }
 
     private void faulty(String text, int code, int position) {
-        RippleTank t = new RippleTank();
-        b.refused("load of " + text, Bench.ARGUMENT, () -> Bench.load(t, text));
-        b.same("code of " + text, t.parseError(), code);
-        b.same("position of " + text, t.errorPosition(), position);
-        b.same("tank of " + text, t.sources(), 0);
+        b.faulty(text, code, position);
+    }
+
+    private void faultyAtEnd(String text, int code) {
+        b.faultyAtEnd(text, code);
     }
 
     private RippleTank good(String text, int sources) {
-        RippleTank t = new RippleTank();
-        b.same("load of " + text, Bench.outcome(() -> Bench.load(t, text)), sources);
-        b.same("code of " + text, t.parseError(), 0);
-        b.same("position of " + text, t.errorPosition(), RippleTank.NONE);
-        return t;
+        return b.good(text, sources);
     }
 
     private void tokens() {
