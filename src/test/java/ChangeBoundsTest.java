@@ -35,6 +35,7 @@ public final class ChangeBoundsTest {
         test.restoring();
         test.listedFirst();
         test.questions();
+        test.questionsAfterChanges();
         test.b.end();
     }
 
@@ -194,6 +195,11 @@ public final class ChangeBoundsTest {
         b.same("off", off.bestPhase(0, 0, 0, 40), 0);
         b.same("a saw at its middle", oneCell("999 9999 2 5 0 9", ";shape 0 saw").bestPhase(0, 0, 0, 1),
                 180);
+        // Of the cells in the diagonal none is reached as early as this one.
+        RippleTank corner = Bench.loaded("tank width 4 height 2 fade 0;train 3 0 9 100 2 90 0 9999"
+                + ";train 3 0 9 100 2 90 0 9999");
+        b.same("a cell off the diagonal", corner.bestPhase(0, 3, 0, 1), 270);
+        b.same("another one", corner.bestPhase(0, 0, 1, 1), 0);
         RippleTank last = oneCell("9 9999 2 0 0 9999", ";shape 0 saw;train 0 0 8 9999 2 270 0 9999"
                 + ";shape 1 square");
         // The saw of 345 is 916 of 1000: 8 of 9, as much as the square of -8.
@@ -708,8 +714,68 @@ public final class ChangeBoundsTest {
         b.same("after those of less times", answers(used, 40), answers(Bench.loaded(small), 40));
     }
 
-    private static String answers(RippleTank t, int n) {
+    /** Whatever was changed, all questions see the tank that a text with these changes makes. */
+    private void questionsAfterChanges() {
+        b.sentence("section 7", "The state consists of everything that changes alter.");
+        String lines = ";shape 1 square;mirror left 60;shoal 0 0 1 3 70;gauge 5 2;gauge 0 3";
+        String before = "tank width 6 height 4 fade 500 wall 2;train 0 1 100 100 4 90 0 9999"
+                + ";train 5 3 400 130 7 20 3 900;slit 1 2;drift 0 30 10" + lines;
+        String after = "tank width 6 height 4 fade 500 wall 2;train 1 2 222 100 4 33 0 9999"
+                + ";train 5 3 400 130 7 20 3 900;slit 0 0;slit 2 2;drift 0 - 20 50;off 1" + lines;
+        RippleTank due = Bench.loaded(after);
+        RippleTank t = Bench.loaded(before);
+        t.moveSource(0, 1, 2);
+        t.setAmp(0, 222);
+        t.setPhase(0, 33);
+        t.setDrift(0, -20, 50);
+        t.setOn(1, false);
+        t.turnRow(0);
+        t.turnRow(1);
+        for (int time = 0; time < 12; time += 3) {
+            b.same("at " + time, answers(t, 3), answers(due, 3));
+            t.advance(3);
+            due.advance(3);
+        }
+        RippleTank other = Bench.loaded(before);
+        for (RippleTank one : new RippleTank[] {t, other}) {
+            Bench.load(one, before);
+            one.advance(17);
+            one.setPhase(1, 300);
+            one.turnRow(3);
+            one.moveSource(1, 1, 1);
+        }
+        // The other one is asked what would be if all of it were different.
+        other.nodesIfOff(1, 1, 0);
+        String asked = answers(other, 2);
+        other.bestPlace(0, 0, 0, 1);
+        other.energyIfTurned(0, 0, 2, 1);
+        b.same("after no question", placesOf(t), placesOf(other));
+        b.same("all answers", answers(t, 2), asked);
+    }
+
+    private static String placesOf(RippleTank t) {
         StringBuilder text = new StringBuilder();
+        for (int source = 0; source < t.sources(); source++) {
+            text.append(" reached ").append(t.reached(source));
+            for (int cell = 0; cell < t.width() * t.height(); cell++) {
+                int x = cell % t.width();
+                int y = cell / t.width();
+                text.append(' ').append(t.isBehind(source, x, y)).append(t.shortest(source, x, y));
+                text.append(' ').append(t.phase(source, x, y)).append(' ');
+                text.append(t.arrival(source, x, y)).append(' ').append(t.part(source, x, y));
+                for (int row = 0; row < t.height(); row++) {
+                    text.append(' ').append(t.path(source, x, y, row)).append(t.isOpen(row));
+                }
+                text.append(' ').append(t.wave(x, y)).append(' ').append(t.waveAt(x, y, 25));
+                text.append(' ').append(t.quietIn(x, y, 5, 20)).append(' ');
+                text.append(t.quietIn(x, y, 50, 20)).append(' ').append(t.amplitude(source, cell));
+            }
+        }
+        return text.append(t.openRows()).toString();
+    }
+
+    private static String answers(RippleTank t, int n) {
+        StringBuilder text = new StringBuilder(placesOf(t));
         for (int y = 0; y < t.height(); y++) {
             text.append(' ').append(t.nodeRows(y, n, 50)).append(' ').append(t.rowEnergy(y, n));
             for (int x = 0; x < t.width(); x++) {

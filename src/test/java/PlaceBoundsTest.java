@@ -294,6 +294,15 @@ public final class PlaceBoundsTest {
         t.turnRow(0);
         t.turnRow(1);
         b.same("row 2 alone", t.shortest(0, 3, 0), 223 + 223);
+        RippleTank tall = Bench.loaded("tank width 3 height 10 fade 0 wall 1;train 0 9 1 50 2 0 0 0"
+                + ";slit 9 9");
+        b.same("through the last of ten rows", tall.shortest(0, 2, 9), 200);
+        RippleTank drifting = Bench.loaded("tank width 9 height 9 fade 0 wall 6;train 1 1 1 50 2 0 0 0"
+                + ";drift 0 2 4;slit 8 8");
+        drifting.advance(100);
+        b.same("from where it is now", drifting.shortest(0, 6, 8), 424);
+        b.same("from where it is now, behind", drifting.shortest(0, 8, 8), 424 + 200);
+        b.same("from where it is now, through a row", drifting.path(0, 8, 8, 5), 300 + 360);
         b.sentence("section 2", "The shortest path is the one with the smallest length; of several the "
                 + "one through the smallest row.");
         RippleTank rows = Bench.loaded(WALLED);

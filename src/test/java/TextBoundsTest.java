@@ -143,7 +143,8 @@ public final class TextBoundsTest {
                 + ";train 4 1 900 300 9 90 0 9999";
         String walled = plain.replace("fade 0", "fade 0 wall 2");
         for (String text : new String[] {plain, walled, rich, plain + " burst 2 1",
-            plain + " rising 3", plain.replace(" 9999;", " 9999 rising 9;"), plain + ";mirror top 9;cut 3 9 9"}) {
+            plain + " rising 3", plain.replace(" 9999;", " 9999 rising 9;"),
+            plain + ";mirror top 9;cut 3 9 9"}) {
             String due = seen(Bench.loaded(text));
             for (String first : new String[] {rich, walled, plain}) {
                 for (int times = 1; times <= 3; times++) {

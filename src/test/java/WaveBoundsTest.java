@@ -151,6 +151,12 @@ public final class WaveBoundsTest {
                 + ";shape 0 square;slit 0 9");
         b.same("ten open rows, 990 / 10", ten.wave(2, 5), 99);
         b.same("this side", ten.wave(0, 5), 99);
+        RippleTank aside = Bench.loaded("tank width 7 height 3 fade 200 wall 2;train 0 1 100 9999 2 90 0 "
+                + "9999;shape 0 square;slit 0 0");
+        // The ways to the wall and from there are 223 and 447 long: 100 * 200 / 870 is 22.
+        b.same("a way around the corner", aside.part(0, 6, 2), 22);
+        aside.moveSource(0, 6, 2);
+        b.same("the same way back", aside.part(0, 0, 1), 22);
         b.sentence("section 4", "It is 0 if there is no path.");
         b.same("a closed row", t.part(0, 1, 0), 0);
         b.same("an open row", t.part(0, 1, 1), 58);
@@ -485,11 +491,39 @@ public final class WaveBoundsTest {
         b.same("corner to corner at the start", groups("1 0 1 0", "0 1 0 1"), 2);
         b.same("two short columns, joined at the bottom", groups("0 0 0 1", "2 0 2 1", "1 1 1 1"), 1);
         b.same("joined leftwards from below", groups("1 0 1 0", "1 1 1 1", "0 1 0 1"), 1);
+        tallAndWideGroups();
         RippleTank all = Bench.loaded("tank width 16 height 10 fade 0;" + FLAT);
         b.same("160 in one group", all.nodeGroups(40, 100), 1);
         b.same("160 in one group again", all.nodeGroups(1, 100), 1);
         b.same("160 in one group once more", all.nodeGroups(1, 9999), 1);
         b.same("none in 160", all.nodeGroups(40, 99), 0);
+        all.setOn(0, false);
+        b.same("all, as it is off now", all.nodeGroups(40, 99), 1);
+        all.undo();
+        b.same("none, as it is on again", all.nodeGroups(40, 99), 0);
+    }
+
+    /** The same bent groups in a column and in a row, far from the first cells. */
+    private void tallAndWideGroups() {
+        String tall = "tank width 3 height 10 fade 0;" + FLAT;
+        b.same("a whole column", Bench.loaded("tank width 1 height 10 fade 0;" + FLAT)
+                .nodeGroups(1, 100), 1);
+        b.same("a whole row", Bench.loaded("tank width 16 height 1 fade 0;" + FLAT)
+                .nodeGroups(1, 100), 1);
+        b.same("a tall one, all", Bench.loaded(tall).nodeGroups(1, 100), 1);
+        b.same("a tall one, its last cell", Bench.loaded(tall + ";shoal 2 9 2 9 0").nodeGroups(1, 0), 1);
+        b.same("a tall one, bent below", Bench.loaded(tall + ";shoal 0 8 0 9 0;shoal 2 8 2 9 0"
+                + ";shoal 1 9 1 9 0").nodeGroups(1, 0), 1);
+        b.same("a tall one, bent to the left", Bench.loaded(tall + ";shoal 2 7 2 9 0;shoal 0 9 1 9 0")
+                .nodeGroups(1, 0), 1);
+        String wide = "tank width 16 height 2 fade 0;" + FLAT;
+        b.same("a wide one, all", Bench.loaded(wide).nodeGroups(1, 100), 1);
+        b.same("a wide one, its last cell", Bench.loaded(wide + ";shoal 15 1 15 1 0").nodeGroups(1, 0),
+                1);
+        b.same("a wide one, bent to the left", Bench.loaded(wide + ";shoal 15 0 15 1 0"
+                + ";shoal 9 1 14 1 0").nodeGroups(1, 0), 1);
+        b.same("a wide one, bent below", Bench.loaded(wide + ";shoal 13 0 13 1 0;shoal 15 0 15 1 0"
+                + ";shoal 14 1 14 1 0").nodeGroups(1, 0), 1);
     }
 
     // ---- section 5, promises 39 to 44
