@@ -3,11 +3,16 @@ import java.lang.reflect.Method;
 import java.util.ArrayList;
 import java.util.Comparator;
 import java.util.List;
+import java.util.Set;
 
 /** Long runs of calls, the same in every session, on RippleTank and on Model: all answers agree. */
 public final class ModelTest {
     private static final int RUNS = 600;
     private static final int CALLS = 120;
+    // Every third run is made mostly of these, so that more changes are made than can be undone.
+    private static final int MOSTLY_CHANGES = 3;
+    private static final Set<String> CHANGES = Set.of("advance", "setOn", "setPhase", "setAmp",
+            "moveSource", "setDrift", "turnRow", "undo", "undoable", "save", "restore");
 
     private long seed;
     private int wrong;
@@ -15,6 +20,7 @@ public final class ModelTest {
     private int refusals;
     private int loads;
     private final List<Method> face = new ArrayList<>();
+    private final List<Method> changes = new ArrayList<>();
 
     public static void main(String[] args) throws Exception {
         ModelTest test = new ModelTest();
@@ -24,12 +30,20 @@ public final class ModelTest {
             }
         }
         test.face.sort(Comparator.comparing(Method::getName));
+        for (Method method : test.face) {
+            // restore would empty the history too soon if it were as frequent as the changes.
+            int times = !CHANGES.contains(method.getName()) ? 0
+                    : method.getName().equals("restore") ? 1 : 4;
+            for (int i = 0; i < times; i++) {
+                test.changes.add(method);
+            }
+        }
         for (int run = 0; run < RUNS && test.wrong < 20; run++) {
             test.run(run);
         }
         System.out.println(test.answers + " answers, " + test.refusals + " refusals and "
                 + test.loads + " loads agree, " + test.wrong + " do not");
-        if (test.wrong != 0 || test.face.size() != 64) {
+        if (test.wrong != 0 || test.face.size() != 64 || test.changes.size() != 41) {
             System.exit(1);
         }
     }
@@ -47,11 +61,13 @@ public final class ModelTest {
         if (pick(20) > 0) {
             load(run, tank, model);
         }
+        boolean changing = run % MOSTLY_CHANGES == 0;
         for (int call = 0; call < CALLS && wrong < 20; call++) {
-            if (pick(25) == 0) {
+            if (pick(changing ? 100 : 25) == 0) {
                 load(run, tank, model);
             } else {
-                Method method = face.get(pick(face.size()));
+                List<Method> choice = changing && pick(3) > 0 ? changes : face;
+                Method method = choice.get(pick(choice.size()));
                 if (!method.getName().equals("load") || pick(4) == 0) {
                     compare(run, tank, model, method, arguments(method, tank));
                 }
@@ -238,7 +254,8 @@ public final class ModelTest {
         int from = pick(3) == 0 ? pick(40) : pick(10) == 0 ? pick(9000) : 0;
         int until = pick(3) == 0 ? from + pick(60) : 9999;
         text.append(";train ").append(pick(width)).append(' ').append(pick(height));
-        text.append(' ').append(1 + pick(999)).append(' ').append(50 + pick(600));
+        int length = pick(8) == 0 ? 9999 - pick(5000) : 50 + pick(pick(4) == 0 ? 3 : 600);
+        text.append(' ').append(1 + pick(999)).append(' ').append(length);
         text.append(' ').append(pick(2) == 0 ? 2 + pick(8) : 2 + pick(98));
         text.append(' ').append(pick(360)).append(' ').append(from).append(' ').append(until);
         int more = pick(4);
